@@ -235,7 +235,7 @@ public final class NameRevisions {
     public int state(int what) {
         switch (what) {
             case 0: return now.time;
-            case 1: return now.record ? 1 : 0;
+            case 1: return now.recorded ? 1 : 0;
             case 2: return now.stepsLeft();
             case 3: return now.repacking ? 1 : 0;
             case 4: return now.repacking ? now.namesWritten() : 0;
@@ -790,7 +790,7 @@ public final class NameRevisions {
         final int[] storedNow = new int[MAX_NAMES];
         int named;
         int time;
-        boolean record;
+        boolean recorded;
         // How many rows of the deal that is committing are applied.
         int applied;
         boolean repacking;
@@ -818,7 +818,7 @@ public final class NameRevisions {
             book.become(other.book);
             named = other.named;
             time = other.time;
-            record = other.record;
+            recorded = other.recorded;
             applied = other.applied;
             repacking = other.repacking;
             reached = other.reached;
@@ -912,7 +912,7 @@ public final class NameRevisions {
         }
 
         int valueOf(int name) {
-            int d = record ? committing() : -1;
+            int d = recorded ? committing() : -1;
             int row = d >= 0 ? deals[d].rowFor(name) : -1;
             return row >= 0 ? deals[d].freshes[row] : names[name].stored();
         }
@@ -1011,7 +1011,7 @@ public final class NameRevisions {
 
         int takeSteps(int kind, int n) {
             int taken = 0;
-            while (taken < n && (kind == OF_DEAL ? stepOfDeal() : stepOfRepack())) {
+            while (taken < n && (kind == OF_REPACK ? stepOfRepack() : stepOfDeal())) {
                 taken++;
             }
             return taken;
@@ -1022,7 +1022,7 @@ public final class NameRevisions {
             if (d < 0) {
                 return 0;
             }
-            return deals[d].rows - applied + (record ? 1 : 2);
+            return deals[d].rows - applied + (recorded ? 1 : 2);
         }
 
         /** Whether there was a step to take. */
@@ -1032,14 +1032,14 @@ public final class NameRevisions {
                 return false;
             }
             Deal deal = deals[d];
-            if (!record) {
-                record = true;
+            if (!recorded) {
+                recorded = true;
                 applied = 0;
             } else if (applied < deal.rows) {
                 names[deal.names[applied]].apply(time, deal.freshes[applied]);
                 applied++;
             } else {
-                record = false;
+                recorded = false;
                 applied = 0;
                 deal.phase = ABSENT;
                 time++;
@@ -1096,7 +1096,7 @@ public final class NameRevisions {
         /** A crash; tells how many deals went. */
         int breakDown() {
             int gone = Integer.bitCount(allDeals());
-            if (record) {
+            if (recorded) {
                 takeSteps(OF_DEAL, stepsLeft());
             }
             for (int d = 0; d < MAX_DEALS; d++) {
