@@ -24,6 +24,7 @@ final class Edges {
     Edges(Path path) throws IOException {
         document = Files.readString(path, StandardCharsets.UTF_8);
         quoted = new boolean[document.length()];
+        addPart("What it is", "\nAn object is", "\n## ");
         for (int p = 1; p <= 3; p++) {
             addPart("Terms " + p, "==== " + p, p < 3 ? "==== " + (p + 1) : "\nAnswers:");
         }

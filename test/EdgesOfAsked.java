@@ -80,6 +80,9 @@ final class EdgesOfAsked {
             "names a a/b a/b/c aa aa/b a/c/d", "store 2 1", "store 3 1", "store 5 1", "list -1 0 = 2", "list -1 1 = 5",
             "list -1 2 = 3", "list 0 0 = 2", "list 0 1 = 5", "list 0 2 = -5", "list 1 0 = 2", "list 1 1 = -5",
             "list {2 3 4 5} 0 = -5");
+        doc.edge("(those of which it is a FOLDER; -1: all)",
+            "names f/a/b f/a f a b c d e aa bb cc ff", "list {0 1 2 11} 0 = -5", "store 0 1", "list 2 0 = 0", "list 1 0 = 0",
+            "list {0 3 11} 0 = -5", "list -1 0 = 0", "store 0 0", "store 11 1", "list 2 0 = -5", "list -1 0 = 11");
         doc.edge("of these NAMES with VALUE not 0",
             "names a b c", "store 0 5", "going 1 0:-1:0 1:-1:6", "list -1 0 = 0", "list -1 1 = -5", "step 0 1 = 1",
             "list -1 0 = 1", "list -1 1 = -5", "step 0 1 = 1", "list -1 0 = 1");
@@ -148,12 +151,15 @@ final class EdgesOfAsked {
     private void mostOfAll() {
         doc.edge("MOST: the set with most DEALS",
             "names a b", "open 0 0:0:1 = 0", "open 0 0:0:2 = 1", "open 0 0:2:3 = 2", "state 6 = 6", "open 0 0:3:4 = 3",
-            "state 6 = 14", "abandon 1 = 1", "state 6 = 1");
+            "state 6 = 14", "abandon 1 = 1", "state 6 = 1", "crash = 3", "open 0 0:0:1 = 0", "open 0 0:0:3 = 1",
+            "open 0 0:9:9 = 2", "open 0 0:1:2 = 3", "orders {1 2 9} = 1", "state 6 = 9");
         doc.edge("(of several the least as bits),",
             "names a b", "open 0 0:0:1 = 0", "open 0 0:0:2 = 1", "open 0 0:0:3 = 2", "open 0 0:0:4 = 3", "state 6 = 1",
             "abandon 0 = 1", "state 6 = 2", "open 0 0:4:0 = 0", "state 6 = 11", "abandon 2 = 1", "open 0 0:2:5 = 2",
             "state 6 = 15", "abandon 0 = 1", "open 0 0:5:6 1:1:0 = 0", "state 6 = 6", "abandon 0 = 2", "open 0 0:4:5 = 0",
-            "orders 9 = 1", "orders {13 11 7} = 0", "state 6 = 6");
+            "orders 9 = 1", "orders {13 11 7} = 0", "state 6 = 6",
+            "crash = 4", "open 0 0:0:1 = 0", "open 0 0:0:3 = 1", "open 0 0:3:4 = 2", "open 0 0:1:2 = 3",
+            "orders {6 9} = 1", "state 6 = 6");
         doc.edge("none COMMITTING,",
             "deal 0 = 0", "deal 0 = 1", "ready 0 = 2", "state 6 = 7", "commit 2 = 2", "state 6 = 3", "abandon 0 = 0",
             "abandon 1 = 0", "state 6 = 0", "step 0 2 = 2", "state 6 = 0");
@@ -213,10 +219,14 @@ final class EdgesOfAsked {
     private void imaged() {
         doc.edge("THE IMAGE: NAMES that came,",
             "names b a/c", "image = 2", "spell a = 2", "of 1 7 = 1", "undo = 2", "count 0 = 2", "of 2 0 = NONE", "of 1 7 = 0",
-            "spell a = 2", "undo = 2", "spell c = 2", "spell a = 3", "folder 2 1 = 0", "folder 3 1 = 1", "spell b = 0");
+            "spell a = 2", "undo = 2", "spell c = 2", "spell a = 3", "folder 2 1 = 0", "folder 3 1 = 1", "spell b = 0", "image = 4",
+            "spell b/a = 4", "wrong 1 0:-1:1 4:-1:1 = 3", "undo = 4", "spell d = 4", "wrong 1 0:-1:1 4:-1:1 = 0",
+            "spell b/a = 5", "wrong 1 4:-1:1 0:-1:1 5:-1:1 = 13");
         doc.edge("REVISIONS,",
             "names a b", "store 0 5", "pack", "store 0 6", "store 1 7", "image = 2", "store 0 0", "store 1 8", "pack",
-            "undo = 2", "of 0 2 = 6", "of 0 3 = 5", "of 1 2 = 7", "of 1 3 = 0");
+            "undo = 2", "of 0 2 = 6", "of 0 3 = 5", "of 1 2 = 7", "of 1 3 = 0", "repack = 2", "step 1 2 = 2", "image = 2",
+            "step 1 1 = 1", "undo = 2", "of 0 2 = 6", "of 0 3 = 5", "of 1 2 = 7", "of 1 3 = 0", "step 1 1 = 1", "image = 2",
+            "store 0 9", "store 1 0", "undo = 2", "of {0 1} 2 = 0", "of 0 3 = 6", "of 1 3 = 7");
         doc.edge("TIME, DEALS with all that is theirs,",
             "names a b c", "store 0 5", "open 2 0:5:6 1:-1:0 = 0", "ready 3 2:-1:9 = 1", "image = 3", "crash = 2", "store 0 1",
             "open 1 1:0:1 = 0", "open 0 2:1:2 0:3:4 1:5:6 = 1", "deal 3 = 2", "undo = 3", "state 0 = 1", "state 5 = 3",
@@ -225,8 +235,10 @@ final class EdgesOfAsked {
             "of 0 1 = 6", "of 1 5 = 1");
         doc.edge("RECORD, REPACK, JOURNALS,",
             "names a b", "store 0 5", "store 1 4", "repack = 2", "step 1 1 = 1", "going 1 0:-1:6 1:-1:7", "step 0 2 = 2",
-            "image = 2", "step 0 20 = 2", "step 1 20 = 2", "store 0 8", "expire 2 = 2", "undo = 2", "state {1 3 4} = 1",
-            "state 2 = 2", "of 0 5 = 2", "of 1 5 = 1", "journal 0 0 0 = 0", "journal 0 1 2 = 6", "of 1 0 = 7", "of 1 1 = 4",
+            "image = 2", "step 0 20 = 2", "step 1 20 = 2", "store 0 8", "expire MAX = 5", "store 0 9", "store 0 1",
+            "4* store 1 2", "undo = 2", "state {1 3 4} = 1", "state 2 = 2", "of 0 5 = 2", "of 1 5 = 1", "journal 0 0 0 = 0",
+            "journal 0 0 1 = 0", "journal 0 0 2 = 5", "journal 0 1 0 = 2", "journal 0 1 1 = 5", "journal 0 1 2 = 6",
+            "journal 1 0 0 = 1", "journal 1 0 1 = 0", "journal 1 0 2 = 4", "of 1 0 = 7", "of 1 1 = 4",
             "step 0 20 = 2", "step 1 20 = 2", "of 0 2 = 6", "of 0 3 = 5", "of 1 2 = 0", "of 1 3 = 7");
         doc.edge("SEEN, the PLAN, the BOOK.",
             "names a b", "store 0 5", "see 0 5 = 1", "see 1 0 = 2", "plan 3 0 = 1", "book 0 5 = 1", "book 1 1 = 2", "image = 2",
@@ -245,7 +257,7 @@ final class EdgesOfAsked {
 
     private void orders() {
         doc.in("Promise 21");
-        doc.edge("ORDERS of a set.", "orders 0 = 1", "deal 0 = 0", "orders 1 = 1", "deal 0 = 1", "orders 3 = 2", "deal 0 = 2",
+        doc.edge("ORDERS of a set.", "names a", "see 0 9 = 1", "orders 0 = 1", "deal 0 = 0", "orders 1 = 1", "deal 0 = 1", "orders 3 = 2", "deal 0 = 2",
             "orders 7 = 6", "deal 0 = 3", "orders 15 = 24", "orders {11 13 14} = 6");
         doc.edge("NONE.",
             "orders {-1 1 15 16 MIN MAX} = NONE", "deal 0 = 0", "deal 0 = 1", "abandon 0 = 0", "orders 2 = 1",
@@ -287,7 +299,7 @@ final class EdgesOfAsked {
     private void odds() {
         doc.in("Promise 25");
         doc.edge("ODDS; part 0 above, 1 below the line.",
-            behind(FREE, "odds 3 0 2 0 = 1", "odds 3 0 2 1 = 2", "odds 3 0 3 0 = 0", "odds 3 0 3 1 = 1"));
+            behind(FREE, "see 0 1 = 1", "odds 3 0 2 0 = 1", "odds 3 0 2 1 = 2", "odds 3 0 3 0 = 0", "odds 3 0 3 1 = 1"));
         doc.edge("NO: set, name, v, part.",
             "odds 0 0 0 0 = NO", "names a", "odds 0 0 0 {0 1} = 1", "odds {-1 1 16 MIN MAX} 0 0 0 = NO",
             "odds 0 {-1 1 12 MIN MAX} 0 0 = NO", "odds 0 0 {-1 1000 MIN MAX} 0 = NO", "odds 0 0 0 {-1 2 MIN MAX} = NO",

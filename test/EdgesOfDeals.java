@@ -165,7 +165,8 @@ final class EdgesOfDeals {
         doc.edge("has STORED not 0 is reached",
             "names a b c", "do 1 0:-1:1 1:-1:2 2:-1:3", "repack = 3", "going 1 0:-1:0 1:-1:5", "step 0 1 = 1",
             "step 1 1 = 1", "state 4 = 1", "step 0 3 = 3", "store 1 0", "step 1 1 = 1", "state 4 = 2", "step 1 1 = 1",
-            "state 3 = 0", "of {0 1} {2 3} = 0", "of 2 3 = 3");
+            "state 3 = 0", "of {0 1} {2 3} = 0", "of 2 3 = 3", "crash = 0", "repack = 1", "going 1 2:-1:0 0:-1:5",
+            "step 0 1 = 1", "step 1 1 = 1", "state {3 4} = 1", "step 1 1 = 1", "state 3 = 0", "of 0 3 = 0", "of 2 3 = 3");
         doc.edge("If there is none, the REPACK is over:",
             "repack = 0", "step 1 20 = 1", "names a b c d e f aa bb cc dd ee ff", "repack = 0", "step 1 20 = 1",
             "do 1 0:-1:1 1:-1:1 2:-1:1 3:-1:1", "do 1 4:-1:1 5:-1:1 6:-1:1 7:-1:1", "do 1 8:-1:1 9:-1:1 10:-1:1 11:-1:1",
@@ -282,8 +283,9 @@ final class EdgesOfDeals {
         doc.in("Promise 15");
         doc.edge("A REPACK begins: how many NAMES have STORED not 0.",
             "names a b c d", "repack = 0", "step 1 20 = 1", "store 0 1", "store 1 2", "store 2 3", "store 2 0",
-            "going 1 3:-1:4 0:-1:0", "step 0 1 = 1", "repack = 2", "state 3 = 1", "state 4 = 0", "step 1 20 = 3",
-            "step 0 20 = 3", "repack = 2");
+            "going 1 3:-1:4", "step 0 1 = 1", "repack = 2", "state 3 = 1", "state 4 = 0", "step 1 20 = 3",
+            "step 0 20 = 2", "repack = 3", "crash = 0", "going 1 0:-1:0", "step 0 1 = 1", "repack = 3", "crash = 1",
+            "repack = 2");
         doc.edge("STATE: one runs.",
             "names a", "store 0 1", "repack = 1", "repack = STATE", "step 1 1 = 1", "repack = STATE", "state 4 = 1",
             "step 1 1 = 1", "repack = 1", "crash = 0", "repack = 1");

@@ -8,6 +8,7 @@ final class EdgesOfNames {
 
     static void tell(Edges doc) {
         EdgesOfNames it = new EdgesOfNames(doc);
+        it.lastCalls();
         it.texts();
         it.folders();
         it.orderOfNames();
@@ -21,6 +22,15 @@ final class EdgesOfNames {
         it.journal();
         it.at();
         it.expire();
+    }
+
+    private void lastCalls() {
+        doc.in("What it is");
+        doc.edge("used for at most 512 calls after it has been made; what later calls answer is free.",
+            "127* do 0", "state 0 = 127", "deal 3 = 0", "told 0 0 = 3", "abandon 0 = 0");
+        doc.edge("used for at most 512 calls",
+            "names a", "100* store 0 999", "state 0 = 100", "of 0 5 = 6", "journal 0 0 0 = 94", "journal 0 5 0 = 99",
+            "at 0 99 = 999", "expire 99 = 5", "mean 0 = 1", "spell c = 1", "count 0 = 2");
     }
 
     private void texts() {
@@ -193,6 +203,7 @@ final class EdgesOfNames {
             "of {0 1} 5 = 0", "of 0 1 = 2", "of 1 1 = 4", "state 0 = 3", "expire MAX = 0");
         doc.edge("go: how many.",
             "names a b c d", "6* do 1 0:-1:1 1:-1:1 2:-1:1 3:-1:1", "expire 5 = 20", "of {0 1 2 3} 5 = 1", "expire 6 = 4",
-            "6* do 1 0:-1:1 1:-1:1 2:-1:1 3:-1:1", "expire MAX = 24");
+            "6* do 1 0:-1:1 1:-1:1 2:-1:1 3:-1:1", "expire MAX = 24", "names e f aa bb cc dd ee ff", "store 11 1",
+            "expire MAX = 1", "of 11 5 = 0");
     }
 }

@@ -1,4 +1,4 @@
-/** What the document says of tapes, judging, the image and of answers: Terms, part 3, and promises 31 to 39. */
+/** What the document says of tapes, of judging and of the image: Terms, part 3, and promises 31 to 39. */
 final class EdgesOfTapes {
     private final Edges doc;
 
@@ -11,8 +11,6 @@ final class EdgesOfTapes {
         it.tapes();
         it.judged();
         it.refusalsOfHost();
-        it.answers();
-        it.firstNamed();
         it.judge();
         it.image();
         it.undo();
@@ -73,59 +71,6 @@ final class EdgesOfTapes {
             "row 0 0 1", "item 0 {-1 1 MIN MAX} 0 = -13", "shift 0 1 0 0 1 = -13", "item 0 0 9 = 1");
         doc.edge("SIZE (-14): a size below 0.",
             "tape 0 0 -1 = -14", "tape 0 {0 1 2 3 4} MIN = -14", "tape 0 0 0 = 1");
-    }
-
-    private void answers() {
-        doc.in("Answers");
-        doc.edge("NONE (-1) no such number;",
-            "of 0 0 = -1", "prepare 0 = -1", "orders 1 = -1", "state 7 = -1", "deal 4 = -1", "tape 6 0 0 = -1");
-        doc.edge("BAD (-2) a number is not as told;",
-            "feed 128 = -2", "count 6 = -2", "taken 0 4 = -2", "tape 0 5 0 = -2", "step 0 21 = -2");
-        doc.edge("STATE (-3) as told;", "undo = -3", "deal 0 = 0", "commit 0 = -3", "repack = 0", "repack = -3");
-        doc.edge("FULL (-4);", "4* deal 0", "deal 0 = -4");
-        doc.edge("What is answered so changes nothing; what is asked changes nothing.",
-            "names a b a/b", "store 0 5", "pack", "store 0 6", "going 1 1:-1:7 0:-1:0", "step 0 1 = 1", "open 0 2:1:9 = 1",
-            "repack = 1", "step 1 1 = 1", "see 0 6 = 1", "plan 3 0 = 1", "book 0 6 = 1", "row 0 2 1 2 3", "image = 3", "text ab",
-            "feed {-1 128} = BAD", "of 3 0 = NONE", "folder 3 0 = NONE", "list 3 0 = NONE", "journal 3 0 0 = NONE",
-            "at 3 0 = NONE", "at 0 -1 = BAD", "deal {-1 4} = NONE", "put 2 0 0 0 = NONE", "put 1 0 -2 0 = BAD",
-            "put 1 2 0 0 = STATE", "put 0 2 0 0 = STATE", "prepare 2 = NONE", "prepare 0 = STATE", "prepare 1 = -12",
-            "commit {2 3} = NONE", "commit {0 1} = STATE", "abandon 2 = NONE", "abandon 0 = STATE", "repack = STATE",
-            "step 2 0 = NONE", "step 0 21 = BAD", "told 2 0 = NONE", "state 7 = NONE", "after 2 0 0 = NONE",
-            "after 0 10 0 = BAD", "orders 1 = NONE", "could 1 0 0 = NONE", "could 0 0 -1 = BAD", "see 3 0 = NONE",
-            "see 0 -1 = BAD", "fits 1 0 = NONE", "odds 1 0 0 0 = NO", "mean 2 = NO", "plan 4 0 = NONE", "ends 3 = NONE",
-            "book 3 0 = NONE", "book 0 -1 = BAD", "judge 6 0 = NONE", "taken 0 4 = BAD", "taken 2 0 = NOTHING",
-            "taken 0 2 = CAST", "count 6 = BAD", "tape 6 0 0 = NONE", "tape 0 5 0 = BAD", "tape 0 0 61 = BAD",
-            "tape 0 0 -1 = SIZE", "item 6 0 0 = NONE", "item 1 0 0 = NOTHING", "item 0 3 0 = PLACE", "read 6 0 = NO",
-            "shift 6 0 0 0 0 = NONE", "shift 1 0 0 0 0 = NOTHING", "shift 0 0 0 0 4 = PLACE");
-        doc.edge("A set of DEALS: as bits;",
-            "names a", "deal 0 = 0", "deal 0 = 1", "open 0 0:5:1 = 2", "orders {0 1 2} = 1", "orders 3 = 2",
-            "orders {4 5 6 7} = 0", "fits 3 1 = 12", "fits 2 1 = 2");
-        doc.edge("one that has others than those there, or one COMMITTING, is none.",
-            "names a", "deal 0 = 0", "deal 0 = 1", "deal 0 = 2", "abandon 1 = 0", "orders {2 3 6 7 8 13 16 32 -1 -6 MIN} = NONE",
-            "could {2 7 8 16} 0 0 = NONE", "fits {2 7 8 16} 0 = NONE", "odds {2 7 8 16} 0 0 0 = NO", "orders 5 = 2",
-            "prepare 2 = 0", "orders 5 = 2", "commit 2 = 2", "orders {4 5} = NONE", "could {4 5} 0 0 = NONE",
-            "fits {4 5} 1 = NONE", "odds {4 5} 0 0 1 = NO", "orders 1 = 1", "step 0 1 = 1", "orders {4 5} = NONE",
-            "step 0 1 = 1", "orders {4 5} = NONE");
-        doc.edge("The constants: `NO = Long.MIN_VALUE`: There is no such number.",
-            "mean 0 = -9223372036854775808", "read 0 0 = -9223372036854775808", "odds 0 0 0 0 = -9223372036854775808");
-    }
-
-    /** Calls that are refused by more than one word: the first one that their words name is the answer. */
-    private void firstNamed() {
-        doc.edge("the first that a call's words name.",
-            "names a b c d e", "at 5 -1 = NONE", "put 0 0 -2 -1 = NONE", "deal 0 = 0", "put 0 5 -2 -1 = NONE", "put 0 0 0 0 = 1",
-            "put 0 0 -2 0 = BAD", "put 0 0 0 1000 = BAD", "put 0 1 0 0 = 2", "put 0 2 0 0 = 3", "put 0 3 0 0 = 4",
-            "put 0 0 0 0 = STATE", "put 0 4 0 1000 = BAD", "put 0 4 0 0 = FULL", "prepare 0 = 0", "put 0 4 0 0 = STATE",
-            "step 2 21 = NONE", "after 2 10 0 = NONE", "after 0 10 5 = NONE", "could 2 0 -1 = NONE", "could 0 5 -1 = NONE",
-            "5* see 0 0", "see 5 -1 = NONE", "see 0 -1 = BAD", "see 0 0 = FULL", "10* plan 0 0", "plan 3 5 = NONE",
-            "plan 0 0 = FULL", "8* book 0 0", "book 5 -1 = NONE", "book 0 -1 = BAD", "book 0 0 = FULL");
-        doc.edge("a call's words name.",
-            "100* feed 97", "feed 128 = BAD", "feed 97 = FULL", "4* deal 0", "deal 4 = NONE", "deal 0 = FULL", "taken 4 4 = BAD",
-            "taken 4 3 = NOTHING", "taken 0 3 = CAST", "tape 6 5 -1 = NONE", "tape 0 5 -1 = BAD", "tape 0 5 61 = BAD",
-            "tape 0 0 61 = BAD", "tape 0 0 -1 = SIZE", "tape 0 -1 -1 = 1", "item 6 -1 0 = NONE", "item 0 -1 0 = NOTHING",
-            "row 0 0 1", "item 0 -1 0 = PLACE", "row 1 1 1", "shift 6 -1 2 -1 -1 = NONE", "shift 2 -1 6 -1 -1 = NONE",
-            "shift 0 -1 2 -1 -1 = NOTHING", "shift 2 -1 0 -1 -1 = NOTHING", "shift 0 -1 1 -1 -1 = CAST",
-            "shift 0 -1 0 -1 -1 = PLACE", "judge 6 -1 = NONE", "judge 1 -1 = CAST");
     }
 
     private void judge() {

@@ -8,6 +8,7 @@ public final class EdgesTest {
         EdgesOfDeals.tell(doc);
         EdgesOfAsked.tell(doc);
         EdgesOfTapes.tell(doc);
+        EdgesOfAnswers.tell(doc);
         doc.end();
     }
 }

@@ -64,6 +64,39 @@ public final class ImageTapesTest {
 
     private static void undo() {
         Check.promise(33);
+        NameRevisions x = underWay();
+        Check.due("image()", x.image(), 3);
+        changeAll(x);
+        Check.due("name(), behind the image", x.name(), 3);
+        x.feed('e');
+        x.feed('e');
+        Check.due("undo()", x.undo(), 3);
+        Check.due("all that can be asked, undone", stamp(x), stamp(underWay()));
+        Check.due("read(0, 3): tapes are no part of it", x.read(0, 3), 0);
+        Check.due("count(5): nor is the text", x.count(5), 2);
+        Check.due("a name that comes anew", x.name(), 3);
+        Check.due("of(3, 1), anew", x.of(3, 1), 0);
+        x.crash();
+        Check.due("undo(), once more", x.undo(), 3);
+        x.step(0, 20);
+        Check.due("step(1, 20) goes on where it was", x.step(1, 20), 2);
+    }
+
+    private static void undoTwice() {
+        Check.promise(33);
+        NameRevisions x = underWay();
+        x.image();
+        changeAll(x);
+        Check.due("undo()", x.undo(), 3);
+        x.step(0, 20);
+        x.step(1, 20);
+        x.crash();
+        Check.due("undo(), once more", x.undo(), 3);
+        Check.due("all that can be asked, undone once more", stamp(x), stamp(underWay()));
+    }
+
+    /** An object in which a deal is half applied, a repack runs, and all that is told by hand is there. */
+    private static NameRevisions underWay() {
         NameRevisions x = Check.with("a", "b", "a/c");
         Check.due("undo(), no image", x.undo(), Check.STATE);
         Check.store(x, 0, 5);
@@ -80,8 +113,10 @@ public final class ImageTapesTest {
         x.book(0, 1);
         x.tape(0, INTS, 3);
         x.feed('d');
-        x.image();
-        long before = stamp(x);
+        return x;
+    }
+
+    private static void changeAll(NameRevisions x) {
         x.feed('d');
         x.tape(0, INTS, 4);
         x.crash();
@@ -98,20 +133,6 @@ public final class ImageTapesTest {
         x.see(-1, 0);
         x.plan(3, 0);
         x.book(-1, 0);
-        Check.due("name(), behind the image", x.name(), 3);
-        x.feed('e');
-        x.feed('e');
-        Check.due("undo()", x.undo(), 3);
-        Check.due("all that can be asked, undone", stamp(x), before);
-        Check.due("read(0, 3): tapes are no part of it", x.read(0, 3), 0);
-        Check.due("count(5): nor is the text", x.count(5), 2);
-        Check.due("a name that comes anew", x.name(), 3);
-        Check.due("of(3, 1), anew", x.of(3, 1), 0);
-        x.crash();
-        Check.due("undo(), once more", x.undo(), 3);
-        Check.due("all that can be asked, undone once more", stamp(x), before);
-        x.step(0, 20);
-        Check.due("step(1, 20) goes on where it was", x.step(1, 20), 2);
     }
 
     /** All that can be asked of names, deals and what was told by hand, as one number. */
@@ -388,6 +409,7 @@ public final class ImageTapesTest {
         judge();
         image();
         undo();
+        undoTwice();
         undoneNames();
         twelveNames();
         taken();

@@ -126,9 +126,9 @@ public final class LanguageTest {
     private static void made() {
         var thread = (com.sun.management.ThreadMXBean) ManagementFactory.getThreadMXBean();
         NameRevisions x = Check.with("a", "b", "a/b", "a/c", "c", "d");
-        life(x, 20);
+        life(x, 6);
         long before = thread.getCurrentThreadAllocatedBytes();
-        life(x, 20);
+        life(x, 6);
         long bytes = thread.getCurrentThreadAllocatedBytes() - before;
         mustBe(12, "calls make next to nothing, but made " + bytes + " bytes", bytes < 4096);
     }

@@ -85,7 +85,9 @@ final class Script {
 
     private void nameThatComes(String text) {
         feed(text);
-        call(new Call("count", 0).on(x), "name");
+        if (call(null, "name") < 0) {
+            faults.add(text + " did not come as a name");
+        }
     }
 
     /** A deal of a kind, with rows of three numbers each: name, old, new. */
