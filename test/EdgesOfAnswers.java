@@ -81,7 +81,7 @@ final class EdgesOfAnswers {
     /** All under way, with an image that is otherwise, and without one. */
     private void changeNothing() {
         String[] atLast = lines("undo = 5", "told 0 2 = 2", "told 1 2 = 0", "told 2 2 = 1", "state 2 = 3", "state {3 4} = 1",
-            "count {2 3 4} = 1", "count 5 = 2", "of 0 2 = 6", "of 0 3 = 5", "of 1 1 = 0", "step 0 20 = 3", "step 1 20 = 2");
+            "state 0 = 2", "count {2 3 4} = 1", "count 5 = 2", "of 0 2 = 6", "of 0 3 = 5", "of 1 1 = 0", "step 0 20 = 3", "step 1 20 = 2");
         doc.edge("What is answered so changes nothing;",
             all(UNDER_WAY, lines("image = 5"), GONE_ON, REFUSED, atLast));
         doc.edge("What is answered so changes nothing;",
@@ -90,10 +90,10 @@ final class EdgesOfAnswers {
         doc.edge("what is asked changes nothing.",
             all(UNDER_WAY, GONE_ON, ASKED, lines("undo = STATE", "of 0 5 = 2", "book 0 9 = 3", "looked = 2", "step 1 20 = 3")));
         // Nor does what comes and goes again leave anything behind.
-        String[] comeAndGo = lines("expire 0 = 0", "step {0 1} 0 = 0", "abandon 2 = 1", "ready 1 3:-1:4 = 2", "deal 3 = 3",
-            "put 3 0 0 0 = 1", "abandon 3 = 1", "see -1 0 = 0", "see 0 6 = 1", "see 3 4 = 2", "book -1 0 = 0", "book 0 6 = 1",
-            "book 3 0 = 2", "plan -1 0 = 0", "plan 3 0 = 1", "plan 2 0 = 2", "row 3 0 1 2", "shift 3 0 3 1 1 = 1",
-            "item 3 0 5 = 1", "tape 3 -1 0 = 1");
+        String[] comeAndGo = lines("see -1 0 = 0", "see 0 6 = 1", "see 3 4 = 2", "book -1 0 = 0", "book 0 6 = 1",
+            "book 3 0 = 2", "plan -1 0 = 0", "plan 3 0 = 1", "plan 2 0 = 2", "expire 0 = 0", "step {0 1} 0 = 0",
+            "abandon 2 = 1", "ready 1 3:-1:4 = 2", "deal 3 = 3", "put 3 0 0 0 = 1", "abandon 3 = 1", "row 3 0 1 2",
+            "shift 3 0 3 1 1 = 1", "item 3 0 5 = 1", "tape 3 -1 0 = 1");
         doc.edge("what is asked changes nothing.", all(UNDER_WAY, lines("image = 5"), GONE_ON, comeAndGo, ASKED, atLast));
         doc.edge("what is asked changes nothing.",
             all(UNDER_WAY, GONE_ON, comeAndGo, ASKED, lines("undo = STATE", "step 1 20 = 3")));
