@@ -1096,8 +1096,8 @@ public final class NameRevisions {
         /** A crash; tells how many deals went. */
         int breakDown() {
             int gone = Integer.bitCount(allDeals());
-            if (recorded) {
-                takeSteps(OF_DEAL, stepsLeft());
+            for (int left = recorded ? stepsLeft() : 0; left > 0; left--) {
+                stepOfDeal();
             }
             for (int d = 0; d < MAX_DEALS; d++) {
                 deals[d].phase = ABSENT;
