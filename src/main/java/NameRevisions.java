@@ -18,7 +18,7 @@ public final class NameRevisions {
     private static final int ABSENT = -1, OPEN = 0, PREPARED = 1, COMMITTING = 2;
     private static final int BY_LOCK = 1, BY_KIND = 2, BY_CLASH = 3;
 
-    private static final int OF_DEAL = 0, OF_REPACK = 1, STEP_KINDS = 2;
+    private static final int OF_REPACK = 1, STEP_KINDS = 2;
     private static final int PLAN_CRASH = 2, PLAN_LOSS = 3, PLAN_KINDS = 4;
 
     private static final int EMPTY = -1, BYTES = 0, SHORTS = 1, INTS = 2, LONGS = 3, BOOLEANS = 4, SORTS = 5;
