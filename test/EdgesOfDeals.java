@@ -177,7 +177,8 @@ final class EdgesOfDeals {
     private void endOfRepack() {
         doc.edge("THE PACK are the REVISIONS WRITTEN, but of NAMES with STORED 0;",
             "names a b c", "do 1 0:-1:1 1:-1:2 2:-1:3", "pack", "repack = 3", "step 1 3 = 3", "store 0 0", "store 1 0",
-            "store 1 7", "step 1 1 = 1", "of 0 {1 2 3} = 0", "of 1 3 = 2", "of 1 2 = 7", "of 2 3 = 3", "store 1 0",
+            "store 1 7", "step 1 1 = 1", "of 0 {1 2 3} = 0", "of 1 3 = 2", "of 1 2 = 7", "of 2 3 = 3",
+            "plan 3 1 = 1", "ends 1 = 2", "of 1 0 = 7", "store 1 0",
             "of 1 {1 2 3} = 0", "repack = 1", "step 1 20 = 2", "of 2 3 = 3", "of {0 1} 3 = 0");
         doc.edge("and where the LOOSE REVISION is that in THE PACK then, there is no LOOSE one.",
             "names a b c", "do 1 0:-1:5 1:-1:6 2:-1:7", "repack = 3", "step 1 3 = 3", "store 0 6", "store 0 5", "store 1 7",
